@@ -17,14 +17,20 @@ final class Checks {
     }
 
     static void dueThrow(String what, Class<? extends RuntimeException> want, Supplier<?> call) {
-        due(what, nameOf(call), want.getSimpleName());
+        due(what, answer(call), "throws " + want.getSimpleName());
     }
 
-    private static String nameOf(Supplier<?> call) {
+    /**
+     * What a call answers, or the exception that it throws. One that the Java machine or its library throws, not a
+     * throw of the class itself, is told apart, though it be of the right kind.
+     */
+    static String answer(Supplier<?> call) {
         try {
-            return "" + call.get();
+            return String.valueOf(call.get());
         } catch (RuntimeException e) {
-            return e.getClass().getSimpleName();
+            StackTraceElement[] frames = e.getStackTrace();
+            boolean isOwn = frames.length > 0 && frames[0].getClassName().startsWith("Housestyle");
+            return "throws " + e.getClass().getSimpleName() + (isOwn ? "" : " by itself");
         }
     }
 

@@ -35,7 +35,7 @@ public final class RandomRunsTest {
     private void same(String call, Supplier<?> got, Supplier<?> want) {
         if (calls < CALLS_MOST) {
             calls++;
-            Checks.due(run + " call " + calls + ": " + call, answer(got), answer(want));
+            Checks.due(run + " call " + calls + ": " + call, Checks.answer(got), answer(want));
         }
     }
 
