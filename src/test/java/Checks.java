@@ -1,3 +1,6 @@
+import java.util.Set;
+import java.util.TreeSet;
+import java.util.function.BiFunction;
 import java.util.function.Supplier;
 
 /** Counts answers that are not as due, and types, writes and reads for the tests. */
@@ -6,6 +9,10 @@ final class Checks {
     private static int all = 0;
 
     private Checks() {
+    }
+
+    static int count() {
+        return all;
     }
 
     static void due(String what, Object got, Object want) {
@@ -31,6 +38,50 @@ final class Checks {
             StackTraceElement[] frames = e.getStackTrace();
             boolean isOwn = frames.length > 0 && frames[0].getClassName().startsWith("Housestyle");
             return "throws " + e.getClass().getSimpleName() + (isOwn ? "" : " by itself");
+        }
+    }
+
+    /** All numbers near those that the document names, and those at which a narrower type would wrap around. */
+    static Set<Integer> numbers() {
+        Set<Integer> numbers = new TreeSet<>();
+        for (int i = -30; i <= 200; i++) {
+            numbers.add(i);
+        }
+        for (int bit = 7; bit < 32; bit++) {
+            for (int i = -1; i <= 21; i++) {
+                numbers.add((1 << bit) + i);
+                numbers.add(i - (1 << bit));
+            }
+        }
+        return numbers;
+    }
+
+    /** Of all numbers just those from the least to the most are taken; at the others the call is refused. */
+    static void onlyFrom(String what, int least, int most, Class<? extends RuntimeException> otherwise,
+            Supplier<Housestyle> made, BiFunction<Housestyle, Integer, ?> call) {
+        for (int number : numbers()) {
+            Housestyle x = made.get();
+            dueTaken(what + " " + number, number >= least && number <= most, otherwise, () -> call.apply(x, number));
+        }
+    }
+
+    /** Of all signs that there are just these are taken; at the others the call is refused. */
+    static void onlySigns(String what, String signs, Class<? extends RuntimeException> otherwise,
+            Supplier<Housestyle> made, BiFunction<Housestyle, Character, ?> call) {
+        for (int number = 0; number <= Character.MAX_VALUE; number++) {
+            char sign = (char) number;
+            Housestyle x = made.get();
+            dueTaken(what + " " + number, signs.indexOf(sign) >= 0, otherwise, () -> call.apply(x, sign));
+        }
+    }
+
+    private static void dueTaken(String what, boolean isTaken, Class<? extends RuntimeException> otherwise,
+            Supplier<?> call) {
+        String answer = answer(call);
+        if (isTaken) {
+            due(what + " is taken, answer " + answer, answer.startsWith("throws"), false);
+        } else {
+            due(what, answer, "throws " + otherwise.getSimpleName());
         }
     }
 
@@ -86,7 +137,8 @@ final class Checks {
 
     static String textOf(Housestyle x) {
         StringBuilder text = new StringBuilder();
-        for (int i = 0; i < x.length(); i++) {
+        int length = x.length();
+        for (int i = 0; i < length; i++) {
             text.append(x.at(i));
         }
         return text.toString();
