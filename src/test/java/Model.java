@@ -185,6 +185,10 @@ final class Model {
         return rules.size() - 1;
     }
 
+    int rules() {
+        return rules.size();
+    }
+
     private Rule ruleAt(int rule) {
         needIndex(0 <= rule && rule < rules.size());
         return rules.get(rule);

@@ -17,9 +17,15 @@ public final class RandomRunsTest {
     private final Housestyle x = new Housestyle();
     private final Model m = new Model();
     private final String run;
+    // Of twelve calls that work on a finding, how many apply a suggestion; a run of few fills up what is ignored.
+    private final int applied;
+    // A run at one desk mostly brings more of its calls together.
+    private final boolean isAtOneDesk;
 
     private RandomRunsTest(int run) {
         this.run = "run " + run;
+        applied = run % 4 * 3;
+        isAtOneDesk = run % 3 == 0;
         seed = run * 7919L + 17;
     }
 
@@ -67,11 +73,25 @@ public final class RandomRunsTest {
     }
 
     private int someRule() {
-        return upTo(20) == 0 ? upTo(25) - 2 : upTo(6);
+        return upTo(20) == 0 ? upTo(25) - 2 : someOf(m.rules());
     }
 
     private int someDesk() {
-        return upTo(15) == 0 ? upTo(9) - 2 : upTo(4);
+        return upTo(15) == 0 ? upTo(9) - 2 : isAtOneDesk ? 2 : upTo(4);
+    }
+
+    /** One of as many, mostly; otherwise one just outside. */
+    private int someOf(int count) {
+        return count == 0 || upTo(12) == 0 ? upTo(count + 3) - 1 : upTo(count);
+    }
+
+    private int someFinding(int desk) {
+        return someOf(desk >= 0 && desk < 4 ? m.findings(desk) : 0);
+    }
+
+    private int someSuggestion(int desk, int finding) {
+        boolean isFound = desk >= 0 && desk < 4 && finding >= 0 && finding < m.findings(desk);
+        return someOf(isFound ? m.of(desk, finding, 's') : 0);
     }
 
     private void addRule() {
@@ -87,15 +107,19 @@ public final class RandomRunsTest {
                 () -> m.rule(condition, inQuotes, rank));
     }
 
+    private void addSuggestion(int rule) {
+        type(one(SUGGESTIONS));
+        same("suggest " + rule, () -> x.suggest(rule), () -> m.suggest(rule));
+    }
+
     private void addMore() {
         int rule = someRule();
         int kind = upTo(5);
         if (kind == 0) {
             type(one(WORDS));
             same("except " + rule, () -> x.except(rule), () -> m.except(rule));
-        } else if (kind < 4) {
-            type(one(SUGGESTIONS));
-            same("suggest " + rule, () -> x.suggest(rule), () -> m.suggest(rule));
+        } else if (kind < 3) {
+            addSuggestion(rule);
         } else {
             type(one(WORDS) + " " + one(WORDS));
             same("pair", x::pair, m::pair);
@@ -147,16 +171,16 @@ public final class RandomRunsTest {
 
     private void work() {
         int desk = someDesk();
-        int finding = upTo(6) == 0 ? upTo(40) - 2 : upTo(4);
-        int suggestion = upTo(8) == 0 ? upTo(4) - 1 : upTo(2);
+        int finding = someFinding(desk);
+        int suggestion = someSuggestion(desk, finding);
         int kind = upTo(12);
-        if (kind < 5) {
+        if (kind < applied) {
             int writer = upTo(30) == 0 ? 4 : upTo(4);
             same("apply " + desk + " " + finding + " " + suggestion, () -> x.apply(desk, finding, suggestion, writer),
                     () -> m.apply(desk, finding, suggestion, writer));
         } else if (kind < 11) {
             same("ignore " + desk + " " + finding, () -> x.ignore(desk, finding), () -> m.ignore(desk, finding));
-        } else if (upTo(5) == 0) {
+        } else if (upTo(3) == 0) {
             same("heed " + desk, () -> x.heed(desk), () -> m.heed(desk));
         }
         same("ignored " + desk, () -> x.ignored(desk), () -> m.ignored(desk));
@@ -164,8 +188,8 @@ public final class RandomRunsTest {
 
     private void ask() {
         int desk = someDesk();
-        int finding = upTo(8) - 1;
-        int suggestion = upTo(8) == 0 ? upTo(4) - 1 : upTo(2);
+        int finding = someFinding(desk);
+        int suggestion = someSuggestion(desk, finding);
         int place = upTo(6) - 1;
         int number = upTo(23) - 1;
         char what = "frlkwsx".charAt(upTo(7));
@@ -200,6 +224,7 @@ public final class RandomRunsTest {
         int rules = upTo(8);
         for (int i = 0; i < rules; i++) {
             addRule();
+            addSuggestion(m.rules() - 1);
             addMore();
         }
         for (int step = 0; step < CALLS_MOST && calls < CALLS_MOST; step++) {
